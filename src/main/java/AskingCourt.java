@@ -363,7 +363,7 @@ public final class AskingCourt {
         if (!caseNow.canBe(world)) {
             return refuse(CANT_BE);
         }
-        return give(caseNow.answerOf(witness, question, world, kind));
+        return give(Case.answerOf(caseNow.packedAnswers(witness, question, world), kind));
     }
 
     /** A case that neither the present nor a mark holds; a fault then spoils nothing. */
@@ -990,12 +990,8 @@ public final class AskingCourt {
             Arrays.fill(hides, 0);
         }
 
-        int valuesOf(int fact) {
-            return firstValue[fact + 1] - firstValue[fact];
-        }
-
         int valueIn(int world, int fact) {
-            int many = valuesOf(fact);
+            int many = firstValue[fact + 1] - firstValue[fact];
             if (stride[fact] < 1 || many < 1) {
                 return NONE;
             }
@@ -1015,7 +1011,7 @@ public final class AskingCourt {
             int step = 1;
             for (int f = facts - 1; f >= 0; f--) {
                 stride[f] = step;
-                step *= valuesOf(f);
+                step *= firstValue[f + 1] - firstValue[f];
             }
             worlds = Math.min(step, MOST_WORLDS);
             possible = 0;
@@ -1042,37 +1038,41 @@ public final class AskingCourt {
             return product;
         }
 
-        static int rowOf(int witness, int question) {
-            return (witness * MOST_QUESTIONS + question) * MOST_WORLDS;
+        void keepAnswers(int witness, int question, int world, int packed) {
+            answers[(witness * MOST_QUESTIONS + question) * MOST_WORLDS + world] = packed;
         }
 
-        int answerOf(int witness, int question, int world, int kind) {
-            int all = answers[rowOf(witness, question) + world];
-            return all >> kind * ANSWER_BITS & ANSWER_MASK;
+        /** The answers of all four kinds of a witness. */
+        int packedAnswers(int witness, int question, int world) {
+            return answers[(witness * MOST_QUESTIONS + question) * MOST_WORLDS + world];
         }
 
-        /** Which of some kinds of a witness would answer so. */
-        int kindsAnswering(int witness, int question, int world, int kinds, int answer) {
-            int all = answers[rowOf(witness, question) + world];
+        static int answerOf(int packed, int kind) {
+            return packed >> kind * ANSWER_BITS & ANSWER_MASK;
+        }
+
+        /** Which kinds answer so. */
+        static int kindsAnswering(int packed, int answer) {
             int such = 0;
+            int rest = packed;
             for (int k = 0; k < KINDS; k++) {
-                if ((all & ANSWER_MASK) == answer) {
+                if ((rest & ANSWER_MASK) == answer) {
                     such |= 1 << k;
                 }
-                all >>= ANSWER_BITS;
+                rest >>= ANSWER_BITS;
             }
-            return such & kinds;
+            return such;
         }
 
-        /** The set of answers that some kinds of a witness would give. */
-        int answersOf(int witness, int question, int world, int kinds) {
-            int all = answers[rowOf(witness, question) + world];
+        /** The set of answers that some kinds give. */
+        static int answersOf(int packed, int kinds) {
             int set = 0;
-            for (int rest = kinds; rest != 0; rest >>= 1) {
-                if ((rest & 1) != 0) {
-                    set |= 1 << (all & ANSWER_MASK);
+            int rest = packed;
+            for (int k = 0; k < KINDS; k++) {
+                if ((kinds >> k & 1) != 0) {
+                    set |= 1 << (rest & ANSWER_MASK);
                 }
-                all >>= ANSWER_BITS;
+                rest >>= ANSWER_BITS;
             }
             return set;
         }
@@ -1495,10 +1495,10 @@ public final class AskingCourt {
                     honest = firstOr(sayings & honestTo(q, known), echo);
                     turned = honest == echo ? echo : honest ^ 1;
                 }
-                file.answers[Case.rowOf(witness, q) + world] = honest
+                file.keepAnswers(witness, q, world, honest
                         | turned << ANSWER_BITS
                         | other << 2 * ANSWER_BITS
-                        | echo << 3 * ANSWER_BITS;
+                        | echo << 3 * ANSWER_BITS);
             }
         }
 
@@ -1641,7 +1641,8 @@ public final class AskingCourt {
         /** The kinds with which the k-th answer agrees in a world: all of those who did not give it. */
         int agreeing(int k, int world) {
             int shift = minutes.who[k] * KINDS;
-            int kinds = file.kindsAnswering(minutes.who[k], minutes.asked[k], world, KINDS_OF_ONE, minutes.said[k]);
+            int packed = file.packedAnswers(minutes.who[k], minutes.asked[k], world);
+            int kinds = Case.kindsAnswering(packed, minutes.said[k]);
             return ALL_KINDS & ~(KINDS_OF_ONE << shift) | kinds << shift;
         }
 
@@ -1737,9 +1738,13 @@ public final class AskingCourt {
             Arrays.fill(behindAnswer, 0);
             int most = 0;
             for (int i = 0; i < living; i++) {
-                int answers = file.answersOf(witness, question, alive[i], kindsLeft(witness, alive[i]));
-                for (int a = 0; a < MOST_SAYINGS && answers >> a != 0; a++) {
-                    if ((answers >> a & 1) != 0) {
+                int kinds = kindsLeft(witness, alive[i]);
+                int packed = file.packedAnswers(witness, question, alive[i]);
+                int counted = 0;
+                for (int k = 0; k < KINDS; k++) {
+                    int a = Case.answerOf(packed, k);
+                    if ((kinds >> k & 1) != 0 && (counted >> a & 1) == 0) {
+                        counted |= 1 << a;
                         behindAnswer[a]++;
                         most = Math.max(most, behindAnswer[a]);
                     }
@@ -1846,7 +1851,7 @@ public final class AskingCourt {
         }
 
         /** The first witness and question with which so many are enough, as one number; or NONE. */
-        int firstOf(int level, int many, int put) {
+        private int firstOf(int level, int many, int put) {
             Case file = hearing.file;
             for (int v = 0; v < file.witnesses; v++) {
                 if (onlyWitness != NONE && v != onlyWitness) {
@@ -1888,7 +1893,7 @@ public final class AskingCourt {
             int behindNo = 0;
             for (int i = start; i < start + sizes[level] && !(any && (behindYes & behindNo) != 0); i++) {
                 int own = kinds[i] >> witness * KINDS & KINDS_OF_ONE;
-                int answers = file.answersOf(witness, question, worlds[i], own);
+                int answers = Case.answersOf(file.packedAnswers(witness, question, worlds[i]), own);
                 if (file.inQuestion(target, worlds[i]) == 1) {
                     behindYes |= answers;
                 } else {
@@ -1906,7 +1911,8 @@ public final class AskingCourt {
             int stay = 0;
             for (int i = start; i < start + sizes[level]; i++) {
                 int own = kinds[i] >> shift & KINDS_OF_ONE;
-                int such = hearing.file.kindsAnswering(witness, question, worlds[i], own, answer);
+                int packed = hearing.file.packedAnswers(witness, question, worlds[i]);
+                int such = own & Case.kindsAnswering(packed, answer);
                 if (such != 0) {
                     worlds[next + stay] = worlds[i];
                     kinds[next + stay] = kinds[i] & ~(KINDS_OF_ONE << shift) | such << shift;
@@ -2022,48 +2028,38 @@ public final class AskingCourt {
             }
             lexer.advance();
             what[steps] = word;
-            if (!readRest(lexer, names, word)) {
+            if (!(word == WHEN ? readTest(lexer, names) : readNames(lexer, names))) {
                 return false;
             }
             steps++;
             return lexer.take(SEMICOLON);
         }
 
-        private boolean readRest(Lexer lexer, Names names, int word) {
-            switch (word) {
-                case ASK:
-                    first[steps] = lexer.takeName(names, A_WITNESS);
-                    if (first[steps] != NONE) {
-                        second[steps] = lexer.takeName(names, A_QUESTION);
-                    }
-                    break;
-                case BEST:
-                    first[steps] = lexer.takeName(names, A_WITNESS);
-                    break;
-                case RULE:
-                    first[steps] = lexer.takeName(names, A_QUESTION);
-                    break;
-                case WHEN:
-                    opened[open] = steps;
-                    open++;
-                    readTest(lexer, names);
-                    break;
-                default:
-                    break;
+        private boolean readNames(Lexer lexer, Names names) {
+            int word = what[steps];
+            if (word == ASK || word == BEST) {
+                first[steps] = lexer.takeName(names, A_WITNESS);
+            } else if (word == RULE) {
+                first[steps] = lexer.takeName(names, A_QUESTION);
+            }
+            if (word == ASK && lexer.fault == 0) {
+                second[steps] = lexer.takeName(names, A_QUESTION);
             }
             return lexer.fault == 0;
         }
 
-        private void readTest(Lexer lexer, Names names) {
+        private boolean readTest(Lexer lexer, Names names) {
             int test = lexer.token;
             if (test < SURE || test > LEFT) {
-                lexer.refuseHere(FAULT_CANT_STAND);
-                return;
+                return lexer.refuseHere(FAULT_CANT_STAND);
             }
             what[steps] = test;
+            opened[open] = steps;
+            open++;
             lexer.advance();
             first[steps] = test == LEFT
                     ? lexer.takeNumber(0, MOST_WORLDS) : lexer.takeName(names, A_QUESTION);
+            return lexer.fault == 0;
         }
 
         void copyFrom(Plan other) {
@@ -2151,8 +2147,8 @@ public final class AskingCourt {
                     || hearing.minutes.putToday() >= MOST_PUT_ON_A_DAY) {
                 return;
             }
-            int said = hearing.file.answerOf(witness, question, trueWorld, kinds[witness]);
-            hearing.enter(witness, question, said);
+            int packed = hearing.file.packedAnswers(witness, question, trueWorld);
+            hearing.enter(witness, question, Case.answerOf(packed, kinds[witness]));
         }
 
         private boolean passes(int test, int operand) {

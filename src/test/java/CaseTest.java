@@ -1,0 +1,272 @@
+/** Promises 9 to 19: the tape, the text of a case, its faults, what the case tells. */
+public final class CaseTest {
+    private static final String TWO = "fact a has b c;";
+
+    public static void main(String[] args) {
+        tape();
+        goodCase();
+        edgesOfTokens();
+        faultsOfTokens();
+        faultsOfFacts();
+        faultsOfQuestions();
+        faultsOfWitnesses();
+        limits();
+        oldCaseStays();
+        Court.end("CaseTest");
+    }
+
+    private static void tape() {
+        AskingCourt x = new AskingCourt();
+        for (int i = 1; i <= 45; i++) {
+            Court.due("feed " + i, x.feed(0x20202020, 0x20202020, 0x20202020, 0x20202020, 0x20202020), 20 * i);
+        }
+        Court.due("a 46th feed", x.feed(0, 0, 0, 0, 0), -1);
+        Court.due("feed() has no status", x.status(), 0);
+        Court.refused(x, "court(-1)", x.court(-1), 1);
+        Court.refused(x, "court(901)", x.court(901), 1);
+        Court.due("fault(0) ahead of any", x.fault(0), -1);
+        Court.refused(x, "plan(301)", x.plan(301), 1);
+        Court.given(x, "court(900) of blanks", x.court(900), 1);
+        Court.due("fault(0)", x.fault(0), 0);
+        Court.due("fault(1)", x.fault(1), -1);
+        Court.due("fault(2)", x.fault(2), -1);
+        Court.due("fault(-1)", x.fault(-1), -1);
+        Court.refused(x, "the tape is empty then", x.court(1), 1);
+        Court.due("the highest byte first", x.feed(0x66616374, 0x80000000, 0, 0, 0), 20);
+        Court.refused(x, "court(5)", x.court(5), 9);
+        Court.due("fact is a token, 128 is none", x.fault(0), 1);
+        Court.due("its place", x.fault(1), 4);
+        Court.due("the tape is empty with 9, too", x.feed(0, 0, 0, 0, 0), 20);
+        Court.refused(x, "court(21)", x.court(21), 1);
+        Court.due("status 1 leaves fault()", x.fault(0), 1);
+        Court.due("status 1 leaves the tape", x.feed(0, 0, 0, 0, 0), 40);
+    }
+
+    private static void goodCase() {
+        AskingCourt x = Court.of("fact who has ann 3 bob;witness v may silent 16;fact where has mill inn barn 9;"
+                + "never barn bob;never bob barn;question qa fee 0 asks ann;"
+                + "question qb fee 99 asks not (bob and mill) and not not inn or barn;"
+                + "witness w knows where who may turns 1 honest 2 silent 4 other 9 hides qb qa;");
+        int[] told = {2, 5, 6, 2, 2, 0, 0, 0};
+        for (int i = 0; i < told.length; i++) {
+            Court.given(x, "told(" + i + ")", x.told(i), told[i]);
+        }
+        Court.refused(x, "told(8)", x.told(8), 1);
+        Court.refused(x, "told(-1)", x.told(-1), 1);
+        int[][] values = {{0, 3}, {0, 1}, {1, 1}, {1, 1}, {1, 9}};
+        for (int v = 0; v < 5; v++) {
+            Court.given(x, "value(" + v + ", 0)", x.value(v, 0), values[v][0]);
+            Court.given(x, "value(" + v + ", 1)", x.value(v, 1), values[v][1]);
+        }
+        Court.refused(x, "value(5, 0)", x.value(5, 0), 1);
+        Court.refused(x, "value(-1, 0)", x.value(-1, 0), 1);
+        Court.refused(x, "value(0, 2)", x.value(0, 2), 1);
+        Court.refused(x, "value(0, -1)", x.value(0, -1), 1);
+        int[][] worlds = {{0, 2, 1, 1, 0}, {0, 3, 1, 1, 1}, {0, 4, 1, 1, 1}, {1, 2, 1, 0, 0}, {1, 3, 1, 0, 1},
+            {1, 4, 0, 0, 0}};
+        for (int w = 0; w < 6; w++) {
+            Court.given(x, "world(" + w + ", 0)", x.world(w, 0), worlds[w][0]);
+            Court.given(x, "world(" + w + ", 1)", x.world(w, 1), worlds[w][1]);
+            Court.given(x, "possible(" + w + ")", x.possible(w), worlds[w][2]);
+            Court.given(x, "holds(0, " + w + ")", x.holds(0, w), worlds[w][3]);
+            Court.given(x, "holds(1, " + w + ")", x.holds(1, w), worlds[w][4]);
+        }
+        Court.refused(x, "world(6, 0)", x.world(6, 0), 1);
+        Court.refused(x, "world(-1, 0)", x.world(-1, 0), 1);
+        Court.refused(x, "world(0, 2)", x.world(0, 2), 1);
+        Court.refused(x, "world(0, -1)", x.world(0, -1), 1);
+        Court.refused(x, "possible(6)", x.possible(6), 1);
+        Court.refused(x, "possible(-1)", x.possible(-1), 1);
+        Court.refused(x, "holds(2, 0)", x.holds(2, 0), 1);
+        Court.refused(x, "holds(-1, 0)", x.holds(-1, 0), 1);
+        Court.refused(x, "holds(0, 6)", x.holds(0, 6), 1);
+        Court.refused(x, "holds(0, -1)", x.holds(0, -1), 1);
+        Court.given(x, "fee(0)", x.fee(0), 0);
+        Court.given(x, "fee(1)", x.fee(1), 99);
+        Court.refused(x, "fee(2)", x.fee(2), 1);
+        Court.refused(x, "fee(-1)", x.fee(-1), 1);
+        int[][] witnesses = {{0, 0, 0, 16, 0, 0}, {2, 1, 9, 4, 3, 3}};
+        for (int what = 0; what < 6; what++) {
+            Court.given(x, "witness(0, " + what + ")", x.witness(0, what), witnesses[0][what]);
+            Court.given(x, "witness(1, " + what + ")", x.witness(1, what), witnesses[1][what]);
+        }
+        Court.refused(x, "witness(0, 6)", x.witness(0, 6), 1);
+        Court.refused(x, "witness(0, -1)", x.witness(0, -1), 1);
+        Court.refused(x, "witness(2, 0)", x.witness(2, 0), 1);
+        Court.refused(x, "witness(-1, 0)", x.witness(-1, 0), 1);
+    }
+
+    private static void edgesOfTokens() {
+        good("", 1);
+        good(" \n ", 1);
+        good("fact a has b1c0002;", 2);
+        good("fact\nabcdefgh\nhas\n\nijklmnop b ;", 2);
+        good("fact a has b c;fact d has e f;never b e;never b f;never c e;never c f;", 0);
+        good(TWO + "question q fee 0000 asks b;", 2);
+        good(TWO + "question q fee 1 asks not not not not not not b;", 2);
+        good(TWO + "question q fee 1 asks ((not(not(b))));", 2);
+        good("witness w may honest 16;", 1);
+    }
+
+    private static void good(String text, int possible) {
+        AskingCourt x = new AskingCourt();
+        Court.given(x, text, Court.court(x, text), possible);
+        Court.due(text + " has no fault", x.fault(0), 0);
+        Court.due(text + " has no place of a fault", x.fault(1), -1);
+    }
+
+    /** The fault stands behind the first part of the text. */
+    private static void fault(int kind, String ahead, String at) {
+        AskingCourt x = new AskingCourt();
+        String text = ahead + at;
+        Court.refused(x, text, Court.court(x, text), 9);
+        Court.due(text + ": kind", x.fault(0), kind);
+        Court.due(text + ": place", x.fault(1), ahead.length());
+    }
+
+    private static void faultsOfTokens() {
+        fault(1, "", "\t");
+        fault(1, "", "Fact a has b c;");
+        fault(1, "fact a", "-b has");
+        fault(1, "fact a has b c", "\u00e9;");
+        fault(1, "fact a has b ", "00001;");
+        fault(1, "fact a has b", "\u0000");
+        fault(2, "", ";");
+        fault(2, "", "12");
+        fault(2, "", "a");
+        fault(2, TWO, ";");
+        fault(2, "fact", "");
+        fault(2, "fact a has b c  \n ", "");
+        fault(2, TWO + " ", "has");
+        fault(2, TWO, "ask w q;");
+    }
+
+    private static void faultsOfFacts() {
+        fault(2, "fact ", "left has b c;");
+        fault(2, "fact ", "7 has b c;");
+        fault(2, "fact ", "abcdefghi has b c;");
+        fault(3, TWO + "fact ", "a has d e;");
+        fault(3, TWO + "fact ", "c has d e;");
+        fault(2, "fact a ", "b c;");
+        fault(2, "fact a has", ";");
+        fault(2, "fact a has ", "3 b c;");
+        fault(3, "fact a has ", "a b;");
+        fault(3, "fact a has b c ", "b;");
+        fault(2, "fact a has b 3 ", "4 c;");
+        fault(4, "fact a has b ", "0 c;");
+        fault(4, "fact a has b c ", "10;");
+        fault(2, "fact a has b c ", "(");
+        fault(2, "fact a has b c ", "never b c;");
+        fault(6, "fact a has b c d e f g ", "h;");
+        fault(3, "fact a has b c d e f g ", "g;");
+        fault(2, "fact a has b c d e f g ", "or;");
+        fault(8, "fact a has b", ";");
+        fault(8, "fact a has b 9 ", ";");
+        fault(2, "fact a has b", "");
+        fault(1, "fact a has b", "?");
+        String three = "fact a has b c d e f g;fact h has i j k l m n;fact o has p q r s t u;";
+        fault(8, three + "fact v has w x", ";");
+        fault(2, three + "fact v has w x", ")");
+        fault(7, TWO + "question q fee 1 asks b;", "fact d has e f;");
+        fault(6, TWO + "fact d has e f;fact g has h i;fact j has k l;question q fee 1 asks b;", "fact m has n o;");
+        fault(2, "never ", ";");
+        fault(3, "never ", "a b;");
+        fault(3, TWO + "never ", "a b;");
+        fault(3, TWO + "never b ", "d;");
+        fault(5, TWO + "never b ", "c;");
+        fault(5, TWO + "never b ", "b;");
+        fault(2, TWO + "fact d has e f;never b e ", "c;");
+        fault(7, TWO + "fact d has e f;question q fee 1 asks b;", "never b e;");
+    }
+
+    private static void faultsOfQuestions() {
+        fault(2, TWO + "question ", "fee fee 1 asks b;");
+        fault(3, TWO + "question ", "b fee 1 asks b;");
+        fault(2, TWO + "question q ", "asks b;");
+        fault(2, TWO + "question q fee ", "asks b;");
+        fault(4, TWO + "question q fee ", "100 asks b;");
+        fault(2, TWO + "question q fee 1 ", "b;");
+        fault(2, TWO + "question q fee 1 asks", ";");
+        fault(3, TWO + "question q fee 1 asks ", "q;");
+        fault(3, TWO + "question q fee 1 asks ", "a;");
+        fault(2, TWO + "question q fee 1 asks ", "abcdefghi;");
+        fault(2, TWO + "question q fee 1 asks b ", "c;");
+        fault(2, TWO + "question q fee 1 asks b or ", "or c;");
+        fault(2, TWO + "question q fee 1 asks b and", ";");
+        fault(2, TWO + "question q fee 1 asks not", ";");
+        fault(2, TWO + "question q fee 1 asks b", ");");
+        fault(2, TWO + "question q fee 1 asks (b or c", ";");
+        fault(2, TWO + "question q fee 1 asks (b", "");
+        fault(7, TWO + "question q fee 1 asks ((((((", "(b)))))));");
+        fault(7, TWO + "question q fee 1 asks not(not(not(", "not b)));");
+        fault(2, TWO + "question q fee 1 asks not(not(not(", ")));");
+    }
+
+    private static void faultsOfWitnesses() {
+        fault(2, "witness ", "may honest 16;");
+        fault(3, TWO + "witness ", "b may honest 16;");
+        fault(2, "witness w ", "honest 16;");
+        fault(2, TWO + "witness w knows ", "may honest 16;");
+        fault(3, TWO + "witness w knows ", "b may honest 16;");
+        fault(3, "witness w knows ", "w may honest 16;");
+        fault(5, TWO + "witness w knows a ", "a may honest 16;");
+        fault(2, TWO + "witness w knows a", ";");
+        fault(2, "witness w may", ";");
+        fault(2, "witness w may ", "w 16;");
+        fault(2, "witness w may honest", ";");
+        fault(2, "witness w may honest ", "turns 16;");
+        fault(4, "witness w may honest ", "0 turns 16;");
+        fault(4, "witness w may honest ", "17;");
+        fault(5, "witness w may honest 8 turns 4 ", "honest 4;");
+        fault(8, "witness w may honest 8 turns 4", ";");
+        fault(8, "witness w may honest 16 turns 16 other 16 silent 16", ";");
+        fault(8, TWO + "question q fee 1 asks b;witness w may honest 15 ", "hides q;");
+        fault(2, "witness w may honest 15 ", "16;");
+        fault(2, "witness w may honest 15", "");
+        fault(1, "witness w may honest 15 ", "#");
+        fault(2, "witness w may honest 16 hides", ";");
+        fault(3, TWO + "witness w may honest 16 hides ", "b;");
+        fault(5, TWO + "question q fee 1 asks b;witness w may honest 16 hides q ", "q;");
+        fault(2, TWO + "question q fee 1 asks b;witness w may honest 16 hides q ", "may;");
+    }
+
+    private static void limits() {
+        StringBuilder text = new StringBuilder(TWO);
+        for (int q = 0; q < 12; q++) {
+            text.append("question q").append((char) ('a' + q)).append(" fee 1 asks b;");
+        }
+        good(text.toString(), 2);
+        fault(6, text.toString(), "question z fee 1 asks b;");
+        String four = "witness a may honest 16;witness b may honest 16;witness c may honest 16;witness d may honest 16;";
+        good(four, 1);
+        fault(6, four, "witness e may honest 16;");
+        String facts = TWO + "fact d has e f;fact g has h i;fact j has k l;";
+        good(facts, 16);
+        fault(6, facts, "fact m has n o;");
+        good("fact a has b c d e;fact f has g h i j;fact k has l m n o;fact p has q r s t;", 256);
+        StringBuilder nevers = new StringBuilder(TWO + "fact d has e f;");
+        for (int i = 0; i < 60; i++) {
+            nevers.append("never b e;");
+        }
+        good(nevers.toString(), 3);
+    }
+
+    private static void oldCaseStays() {
+        AskingCourt x = Court.of(TWO + "question q fee 5 asks b;witness w knows a may honest 16;");
+        Court.plan(x, "rule q;");
+        x.hear(0, 0, 1);
+        x.nextDay();
+        Court.refused(x, "a fault", Court.court(x, TWO + "fact"), 9);
+        Court.given(x, "told(3)", x.told(3), 1);
+        Court.given(x, "told(5)", x.told(5), 1);
+        Court.given(x, "told(6)", x.told(6), 1);
+        Court.given(x, "left()", x.left(), 1);
+        Court.given(x, "the plan is there", x.sit(0), 0);
+        Court.given(x, "a new case", Court.court(x, TWO), 2);
+        Court.given(x, "told(3)", x.told(3), 0);
+        Court.given(x, "told(5)", x.told(5), 0);
+        Court.given(x, "told(6)", x.told(6), 0);
+        Court.given(x, "left()", x.left(), 2);
+        Court.refused(x, "no plan is there", x.sit(0), 6);
+    }
+}
