@@ -6,6 +6,11 @@ public final class HearTest {
             + "witness w knows x may honest 12 turns 4;"
             + "witness v knows x y may honest 8 other 4 silent 4;";
 
+    private static final String PROOFS = "fact x has a b;fact y has c d;"
+            + "question p fee 0 asks a;question r fee 0 asks c;question t fee 0 asks a and c;"
+            + "question u fee 0 asks a or not a;question s fee 0 asks not (a and d);"
+            + "witness w knows x may honest 16;witness v knows y may honest 16;witness z may silent 16;";
+
     public static void main(String[] args) {
         nothingHeard();
         oneHeard();
@@ -209,10 +214,7 @@ public final class HearTest {
 
     /** Two of three answers are needed; the third says nothing. */
     private static void proofs() {
-        AskingCourt x = Court.of("fact x has a b;fact y has c d;"
-                + "question p fee 0 asks a;question r fee 0 asks c;question t fee 0 asks a and c;"
-                + "question u fee 0 asks a or not a;"
-                + "witness w knows x may honest 16;witness v knows y may honest 16;witness z may silent 16;");
+        AskingCourt x = Court.of(PROOFS);
         Court.given(x, "sure by nothing", x.because(3), 0);
         Court.given(x, "silent", x.hear(2, 3, 6));
         Court.given(x, "an echo means a here", x.hear(0, 0, 0));
@@ -220,12 +222,21 @@ public final class HearTest {
         Court.given(x, "an echo means c here", x.hear(1, 1, 2));
         Court.given(x, "sure(2)", x.sure(2), 1);
         Court.given(x, "because(2)", x.because(2), 6);
+        Court.given(x, "because(4)", x.because(4), 4);
         Court.given(x, "because(0)", x.because(0), 2);
         Court.given(x, "because(1)", x.because(1), 4);
         Court.given(x, "because(3)", x.because(3), 0);
         Court.given(x, "gave(0)", x.gave(0), 0);
         Court.given(x, "gave(1)", x.gave(1), 2);
-        Court.given(x, "settled()", x.settled(), 1);
+        Court.given(x, "settled()", x.settled(), 2);
+
+        AskingCourt y = Court.of(PROOFS);
+        y.hear(1, 1, 2);
+        y.hear(2, 3, 6);
+        y.hear(0, 0, 0);
+        Court.given(y, "because(2)", y.because(2), 5);
+        Court.given(y, "what was asked ahead does not matter", y.because(4), 1);
+        Court.given(y, "because(2)", y.because(2), 5);
     }
 
     /** Another bench, and who is a liar, ask whether honest fits, not whether it may be. */

@@ -7,6 +7,7 @@ public final class MarkTest {
     public static void main(String[] args) {
         heardAndDay();
         casesAndPlans();
+        planSteps();
         whatStays();
         manyCases();
         Court.end("MarkTest");
@@ -70,6 +71,27 @@ public final class MarkTest {
         Court.given(x, "sit(0)", x.sit(0), 0);
         Court.given(x, "sat(0)", x.sat(0), 1);
         Court.refused(x, "v is not there", Court.plan(x, "ask v q;"), 9);
+    }
+
+    /** Each part of each step comes back: who is asked, what, and where a when goes on. */
+    private static void planSteps() {
+        AskingCourt x = Court.of(SECOND);
+        Court.plan(x, "when left 0;next;next;end;next;ask w r;when left 2;ask v q;end;next;rule r;");
+        x.sit(0);
+        int[] due = new int[6];
+        for (int what = 0; what < 6; what++) {
+            due[what] = x.sat(what);
+        }
+        Court.due("v is asked in the world drawn", due[0], 2);
+        Court.due("the when ahead is passed by", due[2], 2);
+        x.mark();
+        Court.plan(x, "when left 3;when left 3;ask v r;end;next;ask v q;end;next;next;next;next;");
+        x.sit(0);
+        x.back();
+        Court.given(x, "sit(0)", x.sit(0), 0);
+        for (int what = 0; what < 6; what++) {
+            Court.given(x, "sat(" + what + ")", x.sat(what), due[what]);
+        }
     }
 
     /** Trays, the tape, the fraction, faults, and what was found are no part of a mark. */

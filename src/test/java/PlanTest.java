@@ -189,6 +189,8 @@ public final class PlanTest {
             Court.given(x, "tally(9970, 30, " + end + ")", x.tally(9970, 30, end), ends[end]);
         }
         Court.given(x, "tally(0, 30, 2)", x.tally(0, 30, 2), 0);
+        Court.given(x, "tally(9999, 1, 2)", x.tally(9999, 1, 2), 0);
+        Court.refused(x, "tally(10000, 1, 2)", x.tally(10000, 1, 2), 1);
         Court.given(x, "sat() is of sit()", x.sat(3), last);
         Court.refused(x, "the last above 9,999", x.tally(9971, 30, 0), 1);
         Court.refused(x, "tally(-1, 1, 0)", x.tally(-1, 1, 0), 1);

@@ -8,6 +8,11 @@ public final class PutTest {
     private static final String TWO = "fact x has a b;fact y has c d;"
             + "question p fee 0 asks a;question q fee 0 asks c;question t fee 0 asks a and d or b and c;"
             + "witness s may silent 16;witness w knows x y may honest 16;";
+    /** Behind a one more is enough, behind b it takes two. */
+    private static final String UNLIKE = "fact x has a b;fact y has c d;fact z has e f;"
+            + "question p fee 0 asks a;question q fee 0 asks c;question r fee 0 asks e;"
+            + "question u fee 0 asks a and c or b and (c and e or d and f);"
+            + "witness s may silent 16;witness w knows x y z may honest 16;";
 
     public static void main(String[] args) {
         worstAndBest();
@@ -40,6 +45,10 @@ public final class PutTest {
         x.hear(0, 2, 4);
         Court.refused(x, "all were put", x.best(0), 6);
         Court.refused(x, "worst(0, 0)", x.worst(0, 0), 7);
+        AskingCourt y = Court.of("fact a has b c d e;fact f has g h i j;fact k has l m n o;fact p has q r s t;"
+                + "question u fee 0 asks b;witness w may silent 16;");
+        Court.given(y, "all 256 worlds may be left", y.worst(0, 0), 256);
+        Court.given(y, "best(0)", y.best(0), 0);
     }
 
     private static void first(AskingCourt x, int witness, int question) {
@@ -91,6 +100,12 @@ public final class PutTest {
         first(y, 1, 1);
         y.hear(0, 1, 2);
         Court.refused(y, "what is needed was put to another", y.shortest(2, -1), 6);
+
+        AskingCourt z = Court.of(UNLIKE);
+        z.hear(0, 3, 6);
+        Court.given(z, "not by two behind each answer", z.shortest(3, 1), 3);
+        first(z, 1, 0);
+        Court.refused(z, "not by two to any", z.shortest(3, -1), 6);
     }
 
     /** Of two who know the same the first is asked; of two questions the first. */

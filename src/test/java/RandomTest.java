@@ -49,7 +49,10 @@ public final class RandomTest {
         int calls = 0;
         while (good && calls < 500) {
             int what = random.nextInt(100);
-            if (calls == 0 || what < 2) {
+            if (what == 99) {
+                good = solvePuzzle();
+                calls += 50;
+            } else if (calls == 0 || what < 2) {
                 int luck = random.nextInt(10);
                 String text = luck < 2 && calls > 0 ? texts.wildCase() : texts.goodCase(mostWorlds);
                 good = bring("court", luck == 9 && calls > 0 ? texts.spoil(text) : text);
@@ -104,6 +107,18 @@ public final class RandomTest {
         int n = random.nextInt(30) == 0 ? random.nextInt(1000) : text.length();
         good = good && call(name, n);
         return good && (court.status() != 1 || call("court", 0));
+    }
+
+    private boolean solvePuzzle() throws ReflectiveOperationException {
+        boolean good = bring("court", texts.puzzle());
+        for (int i = 0; i < 5 && good; i++) {
+            int question = upTo(oracle.told(3));
+            court.told(3);
+            good = call("hear", 0, question, 2 * question) && call("shortest", question, 1)
+                    && call("shortestFirst", 1) && call("shortest", question, -1)
+                    && call("shortestFirst", 0) && call("shortestFirst", 1) && hearSomethingLikely();
+        }
+        return good;
     }
 
     private boolean hearSomethingLikely() throws ReflectiveOperationException {

@@ -22,8 +22,26 @@ public final class RoomTest {
             most = Math.max(most, run(length, planLength, seed));
         }
         Court.due("512 calls take at most five cases, they took bytes: " + most, most < 320_000, true);
+        long small = manyCases();
+        Court.due("so do 170 cases, they took bytes: " + small, small < 320_000, true);
         Court.due("the object is there", court.status(), 0);
         Court.end("RoomTest");
+    }
+
+    /** Cases come and go, with three marks on some of them. */
+    private static long manyCases() {
+        AskingCourt court = new AskingCourt();
+        long ahead = taken();
+        for (int i = 0; i < 170; i++) {
+            Court.due("feed()", court.feed(0x66616374, 0x20206120, 0x68617320, 0x62206320, 0x643b2020), 20);
+            Court.due("court()", court.court(20), 3);
+            if (i % 20 == 0) {
+                court.mark();
+            } else if (i % 60 == 50) {
+                court.back();
+            }
+        }
+        return taken() - ahead;
     }
 
     private static long taken() {

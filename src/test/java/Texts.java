@@ -81,6 +81,30 @@ final class Texts {
         return join(tokens);
     }
 
+    /** A case where it takes some questions till a thing is sure: witness 0 is silent, 1 knows all. */
+    String puzzle() {
+        forget();
+        List<String> tokens = new ArrayList<>();
+        for (int i = 2 + random.nextInt(2); i > 0; i--) {
+            fact(tokens, chance(70) ? 2 : 3);
+        }
+        for (List<String> own : values) {
+            String name = newName();
+            tokens.addAll(List.of("question", name, "fee", "1", "asks", one(own), ";"));
+            questions.add(name);
+        }
+        for (int i = 1 + random.nextInt(3); i > 0; i--) {
+            question(tokens);
+        }
+        tokens.addAll(List.of("witness", newName(), "may", "silent", "16", ";", "witness", newName(), "knows"));
+        tokens.addAll(facts);
+        tokens.addAll(chance(70) ? List.of("may", "honest", "16", ";") : List.of("may", "honest", "9", "turns", "7", ";"));
+        for (int i = random.nextInt(3); i > 0; i--) {
+            witness(tokens);
+        }
+        return join(tokens);
+    }
+
     /** A case without a fault (but that it may be too long), with at most so many worlds. */
     String goodCase(int mostWorlds) {
         forget();
