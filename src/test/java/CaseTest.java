@@ -4,6 +4,7 @@ public final class CaseTest {
 
     public static void main(String[] args) {
         tape();
+        cutTexts();
         goodCase();
         edgesOfTokens();
         faultsOfTokens();
@@ -40,6 +41,23 @@ public final class CaseTest {
         Court.refused(x, "court(21)", x.court(21), 1);
         Court.due("status 1 leaves fault()", x.fault(0), 1);
         Court.due("status 1 leaves the tape", x.feed(0, 0, 0, 0, 0), 40);
+    }
+
+    /** What stands on the tape behind the text, or at its very end, is no part of a token. */
+    private static void cutTexts() {
+        cut("fact a has b c 1", "2;", 2, 16);
+        cut("fact a ha", "s b c;", 2, 7);
+        cut("fact a has b c", "defghijk", 2, 14);
+        cut("fact a has b ".concat(" ".repeat(886)).concat("c"), "", 2, 900);
+        cut("fact a has b c ".concat(" ".repeat(884)).concat("9"), "", 2, 900);
+    }
+
+    private static void cut(String text, String rest, int kind, int place) {
+        AskingCourt x = new AskingCourt();
+        Court.feed(x, text + rest);
+        Court.refused(x, text, x.court(text.length()), 9);
+        Court.due(text + ": kind", x.fault(0), kind);
+        Court.due(text + ": place", x.fault(1), place);
     }
 
     private static void goodCase() {
