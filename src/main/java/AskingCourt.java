@@ -1736,19 +1736,22 @@ public final class AskingCourt {
 
         int mostLeftBehind(int witness, int question) {
             Arrays.fill(behindAnswer, 0);
-            int most = 0;
             for (int i = 0; i < living; i++) {
                 int kinds = kindsLeft(witness, alive[i]);
                 int packed = file.packedAnswers(witness, question, alive[i]);
                 int counted = 0;
                 for (int k = 0; k < KINDS; k++) {
-                    int a = Case.answerOf(packed, k);
-                    if ((kinds >> k & 1) != 0 && (counted >> a & 1) == 0) {
+                    int a = packed & ANSWER_MASK;
+                    if ((kinds >> k & 1 & ~(counted >> a)) != 0) {
                         counted |= 1 << a;
                         behindAnswer[a]++;
-                        most = Math.max(most, behindAnswer[a]);
                     }
+                    packed >>= ANSWER_BITS;
                 }
+            }
+            int most = 0;
+            for (int a = 0; a < MOST_SAYINGS; a++) {
+                most = Math.max(most, behindAnswer[a]);
             }
             return most;
         }
