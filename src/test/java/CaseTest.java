@@ -286,5 +286,11 @@ public final class CaseTest {
         Court.given(x, "told(6)", x.told(6), 0);
         Court.given(x, "left()", x.left(), 2);
         Court.refused(x, "no plan is there", x.sit(0), 6);
+        for (int i = 0; i < 6; i++) {
+            Court.given(x, "a case of three values", Court.court(x, "fact x has a b c;"), 3);
+        }
+        Court.refused(x, "c is no value any more", Court.court(x, "fact x has a b;never a c;"), 9);
+        Court.due("kind", x.fault(0), 3);
+        Court.due("place", x.fault(1), 23);
     }
 }

@@ -17,6 +17,7 @@ public final class HearTest {
         twoHeard();
         noneLeft();
         nonePossible();
+        twelveHeard();
         days();
         wrongInputs();
         proofs();
@@ -144,12 +145,42 @@ public final class HearTest {
         Court.refused(x, "tally(0, 1, 0)", x.tally(0, 1, 0), 6);
     }
 
-    private static void days() {
+    private static String twelveQuestions() {
         StringBuilder text = new StringBuilder("fact x has a b;witness w knows x may honest 16;");
         for (int q = 0; q < 12; q++) {
             text.append("question q").append((char) ('a' + q)).append(" fee ").append(q).append(" asks a;");
         }
-        AskingCourt x = Court.of(text.toString());
+        return text.toString();
+    }
+
+    /** Asked a question, w in world 0 says the first other one; so each answer alone is a proof. */
+    private static void twelveHeard() {
+        AskingCourt x = Court.of(twelveQuestions());
+        int fees = 0;
+        for (int q = 0; q < 12; q++) {
+            int said = q == 0 ? 2 : 0;
+            Court.given(x, "answer(0, " + q + ", 0, 0)", x.answer(0, q, 0, 0), said);
+            Court.given(x, "hear(0, " + q + ", ..)", x.hear(0, q, said));
+            fees += q + said / 2;
+            if (q == 6) {
+                x.nextDay();
+            }
+        }
+        Court.given(x, "left()", x.left(), 1);
+        Court.given(x, "because(11)", x.because(11), 1);
+        Court.given(x, "gave(11)", x.gave(11), 1);
+        Court.given(x, "fees()", x.fees(), fees);
+        Court.given(x, "bench()", x.bench(), 1);
+        Court.refused(x, "clash()", x.clash(), 6);
+        Court.given(x, "settled()", x.settled(), 0);
+        Court.refused(x, "best(0)", x.best(0), 6);
+        Court.given(x, "shortest(0, 0)", x.shortest(0, 0), 0);
+        Court.given(x, "heard(11, 1)", x.heard(11, 1), 11);
+        Court.refused(x, "heard(12, 1)", x.heard(12, 1), 6);
+    }
+
+    private static void days() {
+        AskingCourt x = Court.of(twelveQuestions());
         for (int q = 0; q < 9; q++) {
             Court.given(x, "hear(0, " + q + ", ..)", x.hear(0, q, 2 * q));
         }
