@@ -115,137 +115,121 @@ public final class CaseTest {
     }
 
     private static void edgesOfTokens() {
-        good("", 1);
-        good(" \n ", 1);
-        good("fact a has b1c0002;", 2);
-        good("fact\nabcdefgh\nhas\n\nijklmnop b ;", 2);
-        good("fact a has b c;fact d has e f;never b e;never b f;never c e;never c f;", 0);
-        good(TWO + "question q fee 0000 asks b;", 2);
-        good(TWO + "question q fee 1 asks not not not not not not b;", 2);
-        good(TWO + "question q fee 1 asks ((not(not(b))));", 2);
-        good("witness w may honest 16;", 1);
-    }
-
-    private static void good(String text, int possible) {
-        AskingCourt x = new AskingCourt();
-        Court.given(x, text, Court.court(x, text), possible);
-        Court.due(text + " has no fault", x.fault(0), 0);
-        Court.due(text + " has no place of a fault", x.fault(1), -1);
-    }
-
-    /** The fault stands behind the first part of the text. */
-    private static void fault(int kind, String ahead, String at) {
-        AskingCourt x = new AskingCourt();
-        String text = ahead + at;
-        Court.refused(x, text, Court.court(x, text), 9);
-        Court.due(text + ": kind", x.fault(0), kind);
-        Court.due(text + ": place", x.fault(1), ahead.length());
+        Court.good("", 1);
+        Court.good(" \n ", 1);
+        Court.good("fact a has b1c0002;", 2);
+        Court.good("fact\nabcdefgh\nhas\n\nijklmnop b ;", 2);
+        Court.good("fact a has b c;fact d has e f;never b e;never b f;never c e;never c f;", 0);
+        Court.good(TWO + "question q fee 0000 asks b;", 2);
+        Court.good(TWO + "question q fee 1 asks not not not not not not b;", 2);
+        Court.good(TWO + "question q fee 1 asks ((not(not(b))));", 2);
+        Court.good("witness w may honest 16;", 1);
     }
 
     private static void faultsOfTokens() {
-        fault(1, "", "\t");
-        fault(1, "", "Fact a has b c;");
-        fault(1, "fact a", "-b has");
-        fault(1, "fact a has b c", "\u00e9;");
-        fault(1, "fact a has b ", "00001;");
-        fault(1, "fact a has b", "\u0000");
-        fault(2, "", ";");
-        fault(2, "", "12");
-        fault(2, "", "a");
-        fault(2, TWO, ";");
-        fault(2, "fact", "");
-        fault(2, "fact a has b c  \n ", "");
-        fault(2, TWO + " ", "has");
-        fault(2, TWO, "ask w q;");
+        Court.fault(1, "", "\t");
+        Court.fault(1, "", "Fact a has b c;");
+        Court.fault(1, "fact a", "-b has");
+        Court.fault(1, "fact a has b c", "\u00e9;");
+        Court.fault(1, "fact a has b ", "00001;");
+        Court.fault(1, "fact a has b", "\u0000");
+        Court.fault(2, "", ";");
+        Court.fault(2, "", "12");
+        Court.fault(2, "", "a");
+        Court.fault(2, TWO, ";");
+        Court.fault(2, "fact", "");
+        Court.fault(2, "fact a has b c  \n ", "");
+        Court.fault(2, TWO + " ", "has");
+        Court.fault(2, TWO, "ask w q;");
     }
 
     private static void faultsOfFacts() {
-        fault(2, "fact ", "left has b c;");
-        fault(2, "fact ", "7 has b c;");
-        fault(2, "fact ", "abcdefghi has b c;");
-        fault(3, TWO + "fact ", "a has d e;");
-        fault(3, TWO + "fact ", "c has d e;");
-        fault(2, "fact a ", "b c;");
-        fault(2, "fact a has", ";");
-        fault(2, "fact a has ", "3 b c;");
-        fault(3, "fact a has ", "a b;");
-        fault(3, "fact a has b c ", "b;");
-        fault(2, "fact a has b 3 ", "4 c;");
-        fault(4, "fact a has b ", "0 c;");
-        fault(4, "fact a has b c ", "10;");
-        fault(2, "fact a has b c ", "(");
-        fault(2, "fact a has b c ", "never b c;");
-        fault(6, "fact a has b c d e f g ", "h;");
-        fault(3, "fact a has b c d e f g ", "g;");
-        fault(2, "fact a has b c d e f g ", "or;");
-        fault(8, "fact a has b", ";");
-        fault(8, "fact a has b 9 ", ";");
-        fault(2, "fact a has b", "");
-        fault(1, "fact a has b", "?");
+        Court.fault(2, "fact ", "left has b c;");
+        Court.fault(2, "fact ", "7 has b c;");
+        Court.fault(2, "fact ", "abcdefghi has b c;");
+        Court.fault(3, TWO + "fact ", "a has d e;");
+        Court.fault(3, TWO + "fact ", "c has d e;");
+        Court.fault(2, "fact a ", "b c;");
+        Court.fault(2, "fact a has", ";");
+        Court.fault(2, "fact a has ", "3 b c;");
+        Court.fault(3, "fact a has ", "a b;");
+        Court.fault(3, "fact a has b c ", "b;");
+        Court.fault(2, "fact a has b 3 ", "4 c;");
+        Court.fault(4, "fact a has b ", "0 c;");
+        Court.fault(4, "fact a has b c ", "10;");
+        Court.fault(2, "fact a has b c ", "(");
+        Court.fault(2, "fact a has b c ", "never b c;");
+        Court.fault(6, "fact a has b c d e f g ", "h;");
+        Court.fault(3, "fact a has b c d e f g ", "g;");
+        Court.fault(2, "fact a has b c d e f g ", "or;");
+        Court.fault(8, "fact a has b", ";");
+        Court.fault(8, "fact a has b 9 ", ";");
+        Court.fault(2, "fact a has b", "");
+        Court.fault(1, "fact a has b", "?");
         String three = "fact a has b c d e f g;fact h has i j k l m n;fact o has p q r s t u;";
-        fault(8, three + "fact v has w x", ";");
-        fault(2, three + "fact v has w x", ")");
-        fault(7, TWO + "question q fee 1 asks b;", "fact d has e f;");
-        fault(6, TWO + "fact d has e f;fact g has h i;fact j has k l;question q fee 1 asks b;", "fact m has n o;");
-        fault(2, "never ", ";");
-        fault(3, "never ", "a b;");
-        fault(3, TWO + "never ", "a b;");
-        fault(3, TWO + "never b ", "d;");
-        fault(5, TWO + "never b ", "c;");
-        fault(5, TWO + "never b ", "b;");
-        fault(2, TWO + "fact d has e f;never b e ", "c;");
-        fault(7, TWO + "fact d has e f;question q fee 1 asks b;", "never b e;");
+        Court.fault(8, three + "fact v has w x", ";");
+        Court.fault(2, three + "fact v has w x", ")");
+        Court.fault(7, TWO + "question q fee 1 asks b;", "fact d has e f;");
+        Court.fault(6, TWO + "fact d has e f;fact g has h i;fact j has k l;question q fee 1 asks b;", "fact m has n o;");
+        Court.fault(2, "never ", ";");
+        Court.fault(3, "never ", "a b;");
+        Court.fault(3, TWO + "never ", "a b;");
+        Court.fault(3, TWO + "never b ", "d;");
+        Court.fault(5, TWO + "never b ", "c;");
+        Court.fault(5, TWO + "never b ", "b;");
+        Court.fault(2, TWO + "fact d has e f;never b e ", "c;");
+        Court.fault(7, TWO + "fact d has e f;question q fee 1 asks b;", "never b e;");
     }
 
     private static void faultsOfQuestions() {
-        fault(2, TWO + "question ", "fee fee 1 asks b;");
-        fault(3, TWO + "question ", "b fee 1 asks b;");
-        fault(2, TWO + "question q ", "asks b;");
-        fault(2, TWO + "question q fee ", "asks b;");
-        fault(4, TWO + "question q fee ", "100 asks b;");
-        fault(2, TWO + "question q fee 1 ", "b;");
-        fault(2, TWO + "question q fee 1 asks", ";");
-        fault(3, TWO + "question q fee 1 asks ", "q;");
-        fault(3, TWO + "question q fee 1 asks ", "a;");
-        fault(2, TWO + "question q fee 1 asks ", "abcdefghi;");
-        fault(2, TWO + "question q fee 1 asks b ", "c;");
-        fault(2, TWO + "question q fee 1 asks b or ", "or c;");
-        fault(2, TWO + "question q fee 1 asks b and", ";");
-        fault(2, TWO + "question q fee 1 asks not", ";");
-        fault(2, TWO + "question q fee 1 asks b", ");");
-        fault(2, TWO + "question q fee 1 asks (b or c", ";");
-        fault(2, TWO + "question q fee 1 asks (b", "");
-        fault(7, TWO + "question q fee 1 asks ((((((", "(b)))))));");
-        fault(7, TWO + "question q fee 1 asks not(not(not(", "not b)));");
-        fault(2, TWO + "question q fee 1 asks not(not(not(", ")));");
+        Court.fault(2, TWO + "question ", "fee fee 1 asks b;");
+        Court.fault(3, TWO + "question ", "b fee 1 asks b;");
+        Court.fault(2, TWO + "question q ", "asks b;");
+        Court.fault(2, TWO + "question q fee ", "asks b;");
+        Court.fault(4, TWO + "question q fee ", "100 asks b;");
+        Court.fault(2, TWO + "question q fee 1 ", "b;");
+        Court.fault(2, TWO + "question q fee 1 asks", ";");
+        Court.fault(3, TWO + "question q fee 1 asks ", "q;");
+        Court.fault(3, TWO + "question q fee 1 asks ", "a;");
+        Court.fault(2, TWO + "question q fee 1 asks ", "abcdefghi;");
+        Court.fault(2, TWO + "question q fee 1 asks b ", "c;");
+        Court.fault(2, TWO + "question q fee 1 asks b or ", "or c;");
+        Court.fault(2, TWO + "question q fee 1 asks b and", ";");
+        Court.fault(2, TWO + "question q fee 1 asks not", ";");
+        Court.fault(2, TWO + "question q fee 1 asks b", ");");
+        Court.fault(2, TWO + "question q fee 1 asks (b or c", ";");
+        Court.fault(2, TWO + "question q fee 1 asks (b", "");
+        Court.fault(7, TWO + "question q fee 1 asks ((((((", "(b)))))));");
+        Court.fault(7, TWO + "question q fee 1 asks not(not(not(", "not b)));");
+        Court.fault(2, TWO + "question q fee 1 asks not(not(not(", ")));");
     }
 
     private static void faultsOfWitnesses() {
-        fault(2, "witness ", "may honest 16;");
-        fault(3, TWO + "witness ", "b may honest 16;");
-        fault(2, "witness w ", "honest 16;");
-        fault(2, TWO + "witness w knows ", "may honest 16;");
-        fault(3, TWO + "witness w knows ", "b may honest 16;");
-        fault(3, "witness w knows ", "w may honest 16;");
-        fault(5, TWO + "witness w knows a ", "a may honest 16;");
-        fault(2, TWO + "witness w knows a", ";");
-        fault(2, "witness w may", ";");
-        fault(2, "witness w may ", "w 16;");
-        fault(2, "witness w may honest", ";");
-        fault(2, "witness w may honest ", "turns 16;");
-        fault(4, "witness w may honest ", "0 turns 16;");
-        fault(4, "witness w may honest ", "17;");
-        fault(5, "witness w may honest 8 turns 4 ", "honest 4;");
-        fault(8, "witness w may honest 8 turns 4", ";");
-        fault(8, "witness w may honest 16 turns 16 other 16 silent 16", ";");
-        fault(8, TWO + "question q fee 1 asks b;witness w may honest 15 ", "hides q;");
-        fault(2, "witness w may honest 15 ", "16;");
-        fault(2, "witness w may honest 15", "");
-        fault(1, "witness w may honest 15 ", "#");
-        fault(2, "witness w may honest 16 hides", ";");
-        fault(3, TWO + "witness w may honest 16 hides ", "b;");
-        fault(5, TWO + "question q fee 1 asks b;witness w may honest 16 hides q ", "q;");
-        fault(2, TWO + "question q fee 1 asks b;witness w may honest 16 hides q ", "may;");
+        Court.fault(2, "witness ", "may honest 16;");
+        Court.fault(3, TWO + "witness ", "b may honest 16;");
+        Court.fault(2, "witness w ", "honest 16;");
+        Court.fault(2, TWO + "witness w knows ", "may honest 16;");
+        Court.fault(3, TWO + "witness w knows ", "b may honest 16;");
+        Court.fault(3, "witness w knows ", "w may honest 16;");
+        Court.fault(5, TWO + "witness w knows a ", "a may honest 16;");
+        Court.fault(2, TWO + "witness w knows a", ";");
+        Court.fault(2, "witness w may", ";");
+        Court.fault(2, "witness w may ", "w 16;");
+        Court.fault(2, "witness w may honest", ";");
+        Court.fault(2, "witness w may honest ", "turns 16;");
+        Court.fault(4, "witness w may honest ", "0 turns 16;");
+        Court.fault(4, "witness w may honest ", "17;");
+        Court.fault(5, "witness w may honest 8 turns 4 ", "honest 4;");
+        Court.fault(8, "witness w may honest 8 turns 4", ";");
+        Court.fault(8, "witness w may honest 16 turns 16 other 16 silent 16", ";");
+        Court.fault(8, TWO + "question q fee 1 asks b;witness w may honest 15 ", "hides q;");
+        Court.fault(2, "witness w may honest 15 ", "16;");
+        Court.fault(2, "witness w may honest 15", "");
+        Court.fault(1, "witness w may honest 15 ", "#");
+        Court.fault(2, "witness w may honest 16 hides", ";");
+        Court.fault(3, TWO + "witness w may honest 16 hides ", "b;");
+        Court.fault(5, TWO + "question q fee 1 asks b;witness w may honest 16 hides q ", "q;");
+        Court.fault(2, TWO + "question q fee 1 asks b;witness w may honest 16 hides q ", "may;");
     }
 
     private static void limits() {
@@ -253,20 +237,20 @@ public final class CaseTest {
         for (int q = 0; q < 12; q++) {
             text.append("question q").append((char) ('a' + q)).append(" fee 1 asks b;");
         }
-        good(text.toString(), 2);
-        fault(6, text.toString(), "question z fee 1 asks b;");
+        Court.good(text.toString(), 2);
+        Court.fault(6, text.toString(), "question z fee 1 asks b;");
         String four = "witness a may honest 16;witness b may honest 16;witness c may honest 16;witness d may honest 16;";
-        good(four, 1);
-        fault(6, four, "witness e may honest 16;");
+        Court.good(four, 1);
+        Court.fault(6, four, "witness e may honest 16;");
         String facts = TWO + "fact d has e f;fact g has h i;fact j has k l;";
-        good(facts, 16);
-        fault(6, facts, "fact m has n o;");
-        good("fact a has b c d e;fact f has g h i j;fact k has l m n o;fact p has q r s t;", 256);
+        Court.good(facts, 16);
+        Court.fault(6, facts, "fact m has n o;");
+        Court.good("fact a has b c d e;fact f has g h i j;fact k has l m n o;fact p has q r s t;", 256);
         StringBuilder nevers = new StringBuilder(TWO + "fact d has e f;");
         for (int i = 0; i < 60; i++) {
             nevers.append("never b e;");
         }
-        good(nevers.toString(), 3);
+        Court.good(nevers.toString(), 3);
     }
 
     private static void oldCaseStays() {

@@ -4,6 +4,7 @@ import java.nio.charset.StandardCharsets;
 final class Court {
     private static int answers = 0;
     private static int wrong = 0;
+    private static String about = "";
 
     private Court() {
     }
@@ -39,16 +40,41 @@ final class Court {
         return court;
     }
 
+    /** Which sentence the answers from here on are for. */
+    static void about(String sentence) {
+        about = sentence;
+    }
+
     static void due(String call, long got, long want) {
         answers++;
         if (got != want) {
             wrong++;
-            System.out.println(call + " answered " + got + ", due is " + want);
+            System.out.println(about + call + " answered " + got + ", due is " + want);
         }
+    }
+
+    static void due(String call, String got, String want) {
+        due(call + ": " + got + " and " + want, got.equals(want), true);
     }
 
     static void due(String call, boolean got, boolean want) {
         due(call, got ? 1 : 0, want ? 1 : 0);
+    }
+
+    /** The text is a case with so many possible worlds. */
+    static void good(String text, int possible) {
+        AskingCourt court = new AskingCourt();
+        given(court, text, court(court, text), possible);
+        due(text + ": fault(0)", court.fault(0), 0);
+        due(text + ": fault(1)", court.fault(1), AskingCourt.NONE);
+    }
+
+    /** The text of a case has this fault behind its first part. */
+    static void fault(int kind, String ahead, String at) {
+        AskingCourt court = new AskingCourt();
+        refused(court, ahead + at, court(court, ahead + at), 9);
+        due(ahead + at + ": fault(0)", court.fault(0), kind);
+        due(ahead + at + ": fault(1)", court.fault(1), ahead.length());
     }
 
     /** A call that gives NONE and has this status. */
