@@ -18,8 +18,12 @@ public final class EdgeAnswersTest {
     private static final int[][] TWO_TELL_A = {{0, 0, 2}, {0, 1, 0}, {1, 2, 4}};
 
     public static void main(String[] args) {
+        meanings();
         knownSets();
+        honestWithin();
+        others();
         questionsOfNothing();
+        oneQuestion();
         hiding();
         orderOfSayings();
         noWorldPossible();
@@ -41,6 +45,57 @@ public final class EdgeAnswersTest {
         for (int kind = 0; kind < 4; kind++) {
             String call = "answer(" + witness + ", " + question + ", " + world + ", " + kind + ")";
             Court.given(x, call, x.answer(witness, question, world, kind), kind == 3 ? 2 * question : due[kind]);
+        }
+    }
+
+    /** World 3 can't be, so p twice means what r once means: world 2 alone. */
+    private static void meanings() {
+        Sentences.terms("A SAYING is a QUESTION asked once, which means that it is so, or asked twice, which means that it is"
+                + " not: a set of POSSIBLE WORLDS each.");
+        AskingCourt x = Court.of("fact x has a b;fact y has c d;never b d;question p fee 0 asks a;question r fee 0 asks c and b;"
+                + "question s fee 0 asks d or b;witness w knows x y may honest 16;");
+        row(x, 0, 1, 2, 1, 0, 4);
+        row(x, 0, 0, 2, 1, 0, 4);
+        row(x, 0, 0, 0, 3, 2, 0);
+        row(x, 0, 2, 0, 5, 4, 0);
+        Court.given(x, "hear(0, 0, 3): r is not so", x.hear(0, 0, 3));
+        Court.given(x, "left()", x.left(), 2);
+        Court.given(x, "isLeft(0)", x.isLeft(0), 1);
+        Court.given(x, "isLeft(3)", x.isLeft(3), 0);
+        Court.given(x, "gave(0)", x.gave(0), 1);
+    }
+
+    /** p holds 0 to 3, q 0 1, r 0. */
+    private static void honestWithin() {
+        Sentences.terms("honest: if K is within q: the first SAYING, not q once, whose meaning M holds K and is within q;");
+        AskingCourt x = Court.of("fact x has a b;fact y has c d;fact z has e f;question p fee 0 asks a;"
+                + "question q fee 0 asks a and c;question r fee 0 asks a and c and e;witness w knows x y z may honest 16;"
+                + "witness v knows x y may honest 16;");
+        row(x, 0, 0, 0, 2, 3, 0);
+        row(x, 0, 0, 1, 2, 3, 5);
+        row(x, 0, 0, 2, 0, 0, 3);
+        row(x, 0, 1, 0, 4, 5, 0);
+        row(x, 0, 1, 1, 2, 2, 0);
+        row(x, 0, 2, 0, 4, 4, 0);
+        row(x, 1, 0, 0, 2, 3, 0);
+        row(x, 1, 1, 0, 2, 2, 0);
+        row(x, 1, 2, 0, 4, 4, 0);
+        row(x, 1, 2, 2, 3, 2, 0);
+        row(x, 1, 1, 2, 3, 2, 0);
+        row(x, 1, 0, 7, 1, 0, 3);
+    }
+
+    private static void others() {
+        Sentences.terms("other: the first SAYING of another QUESTION than q whose M holds K, is not all POSSIBLE WORLDS, has some"
+                + " of q and some that q has not; else an ECHO. silent: an ECHO.");
+        AskingCourt x = Court.of("fact x has a b;fact y has c d;question t fee 0 asks a or b;question q fee 0 asks a;"
+                + "question m fee 0 asks b;question n fee 0 asks a and b;question r fee 0 asks c;witness w knows x y may honest 16;");
+        int[][] due = {{0, 8, 8, 6, 2}, {0, 9, 9, 6, 2}, {0, 8, 8, 6, 3}, {0, 9, 9, 6, 3}};
+        for (int world = 0; world < 4; world++) {
+            for (int question = 0; question < 5; question++) {
+                Court.given(x, "other", x.answer(0, question, world, 2), due[world][question]);
+                Court.given(x, "silent", x.answer(0, question, world, 3), 2 * question);
+            }
         }
     }
 
@@ -91,6 +146,16 @@ public final class EdgeAnswersTest {
         }
     }
 
+    private static void oneQuestion() {
+        Sentences.terms("else, and if there is none, an ECHO");
+        AskingCourt x = Court.of("fact x has a b;question t fee 0 asks a or b;witness w knows x may honest 16;");
+        row(x, 0, 0, 0, 0, 0, 0);
+        row(x, 0, 0, 1, 0, 0, 0);
+        AskingCourt y = Court.of("fact x has a b;question n fee 0 asks a and b;witness w knows x may honest 16;");
+        row(y, 0, 0, 0, 1, 0, 0);
+        row(y, 0, 0, 1, 1, 0, 0);
+    }
+
     private static void hiding() {
         Sentences.terms("Who hides q answers as other, of whatever KIND (silent: an ECHO all the same).");
         AskingCourt x = Court.of(EMPTY);
@@ -139,6 +204,7 @@ public final class EdgeAnswersTest {
         Court.refused(x, "trust", x.trust(0, 0), 6);
         Court.refused(x, "best", x.best(0), 6);
         Court.refused(x, "liars", x.liars(), 6);
+        Court.refused(x, "clash", x.clash(), 6);
         Court.given(x, "settled", x.settled(), 0);
         Court.given(x, "bench", x.bench(), 0);
         Court.given(x, "hear(0, 1, 3)", x.hear(0, 1, 3));
@@ -249,7 +315,10 @@ public final class EdgeAnswersTest {
         x.hear(1, 2, 3);
         Court.given(x, "sure though put", x.sure(2), 1);
         Court.given(x, "but not counted", x.settled(), 1);
+        Court.given(x, "by no answer, though one was heard", x.because(2), 0);
         x.hear(0, 1, 0);
+        Court.given(x, "by no answer, though two were heard", x.because(1), 0);
+        Court.given(x, "by the second", x.because(0), 2);
         Court.given(x, "left()", x.left(), 2);
         Court.given(x, "all two are", x.sure(0), 1);
         Court.refused(x, "one of two is", x.sure(3), 6);
@@ -263,7 +332,9 @@ public final class EdgeAnswersTest {
     }
 
     private static void weights() {
-        Sentences.terms("times, for each WITNESS, the sixteenths of KINDS that FIT together");
+        Sentences.terms("WEIGHT of a WORLD that is LEFT: its VALUES' weights times one another, times, for each WITNESS, the"
+                + " sixteenths of KINDS that FIT together. CHANCE of a QUESTION: WEIGHT of WORLDS LEFT in it by that of all"
+                + " LEFT.");
         AskingCourt x = Court.of(TURNING);
         told(x, "chance(0)", x.chance(0), 1, 10);
         told(x, "trust(0, 0)", x.trust(0, 0), 15, 16);
@@ -327,6 +398,13 @@ public final class EdgeAnswersTest {
         AskingCourt u = Court.of(PROOFS);
         hear(u, new int[] {1, 2, 4}, new int[] {0, 0, 2}, new int[] {0, 1, 0});
         Court.given(u, "3 is less than 5", u.because(3), 3);
+        AskingCourt s = Court.of("fact x has a b;fact y has c d;question p fee 0 asks a;question q fee 0 asks c;"
+                + "question t fee 0 asks a and c;question n fee 0 asks not (a and d);"
+                + "witness w knows x may honest 16;witness v knows y may honest 16;");
+        hear(s, new int[] {0, 0, 0}, new int[] {1, 1, 2});
+        Court.given(s, "by both", s.because(2), 3);
+        Court.given(s, "by the second", s.because(3), 2);
+        Court.given(s, "by both", s.because(2), 3);
         AskingCourt v = Court.of(PROOFS);
         hear(v, new int[] {0, 0, 1}, new int[] {1, 2, 5});
         Court.given(v, "sure no by either", v.because(3), 1);
@@ -346,6 +424,19 @@ public final class EdgeAnswersTest {
             Court.given(x, "by the twelfth alone", x.because(q), 2048);
         }
         Court.given(x, "settled()", x.settled(), 0);
+        StringBuilder text = new StringBuilder("fact a has b c d e;fact f has g h i j;fact k has l m n o;fact p has q r s t;"
+                + "witness z may silent 16;witness w knows a may honest 16;");
+        for (int q = 0; q < 12; q++) {
+            text.append("question q").append((char) ('a' + q)).append(" fee 0 asks b;");
+        }
+        AskingCourt y = Court.of(text.toString());
+        for (int q = 0; q < 12; q++) {
+            y.nextDay();
+            y.hear(q == 11 ? 1 : 0, q, q == 11 ? 1 : 2 * q);
+        }
+        Court.given(y, "three of four are left", y.left(), 192);
+        Court.given(y, "no, by the twelfth alone", y.because(0), 2048);
+        Court.given(y, "sure(11)", y.sure(11), 0);
     }
 
     private static void fees() {

@@ -17,6 +17,7 @@ public final class EdgePlansTest {
         seeds();
         draws();
         drawnKinds();
+        asTrue();
         nothingIsDone();
         nineOnADay();
         tests();
@@ -105,6 +106,32 @@ public final class EdgePlansTest {
     }
 
     private static void lines() {
+        Sentences.terms("STEP: ask NAME NAME ; or best NAME ; or next ; or rule NAME ; or when TEST ; {STEP} end ; TEST: sure"
+                + " NAME, or yes NAME, or no NAME, or left NUMBER.");
+        good("ask w p;", 1);
+        good("best w;", 1);
+        good("next;", 1);
+        good("rule p;", 1);
+        good("when sure p;end;", 1);
+        good("when yes p;next;end;", 2);
+        good("when no p;next;next;end;", 3);
+        good("when left 2;next;when sure p;end;next;end;", 4);
+        fault(2, "ask", ";");
+        fault(2, "ask w p", "");
+        fault(2, "best", ";");
+        fault(2, "when", ";");
+        fault(2, "when sure", ";");
+        fault(2, "when sure p ", "next;end;");
+        fault(2, "when ", "1;end;");
+        fault(2, "when sure p;end ", "p;");
+        fault(2, "", ";");
+        fault(2, "next;", ";");
+        Sentences.terms("3 a NAME that is no such thing.");
+        fault(3, "ask ", "vv p;");
+        fault(3, "ask w ", "pp;");
+        fault(3, "best ", "ww;");
+        fault(3, "rule ", "pp;");
+        fault(3, "when sure ", "pp;");
         Sentences.terms("(ask: a WITNESS, a QUESTION; best: a WITNESS; others: a QUESTION.)");
         good("ask w p;best z;rule t;when sure n;end;when yes r;end;when no q;end;", 6);
         for (String name : new String[] {"x", "a", "p", "v"}) {
@@ -186,7 +213,8 @@ public final class EdgePlansTest {
     }
 
     private static void draws() {
-        Sentences.terms("the draw by n is s by 8, rounded down, by n what is left");
+        Sentences.terms("Draws: s, at first the seed, becomes what is left of s times 2,417 and 10,613 by 65,536; the draw by n"
+                + " is s by 8, rounded down, by n what is left.");
         AskingCourt x = Court.of("fact x has a 9 b 1 c 2;fact y has d 3 e;never b d;never c e;question p fee 0 asks a;");
         Court.plan(x, "rule p;");
         int[] weights = {27, 9, 0, 1, 6, 0};
@@ -203,7 +231,9 @@ public final class EdgePlansTest {
     }
 
     private static void drawnKinds() {
-        Sentences.terms("then WITNESS by WITNESS one by 16: the first with which what is summed up is more");
+        Sentences.terms("nothing is heard at first, DAY 0; the true WORLD, then KINDS are drawn: a draw by the weights of all"
+                + " POSSIBLE WORLDS together (VALUES' weights times one another), then WITNESS by WITNESS one by 16: the first"
+                + " with which what is summed up is more.");
         AskingCourt x = Court.of("fact x has a 2 b 7;question p fee 0 asks a;witness e may silent 1 honest 15;"
                 + "witness f may turns 16;witness g may other 8 honest 8;witness h may honest 1 turns 15;");
         Court.plan(x, "rule p;");
@@ -227,6 +257,35 @@ public final class EdgePlansTest {
         Court.due("sit(0)", x.sit(0) >= 0, true);
         for (int what = 0; what < due.length; what++) {
             Court.given(x, plan + ": sat(" + what + ")", x.sat(what), due[what]);
+        }
+    }
+
+    /** The counts of heard answers and fees tell what was answered. */
+    private static void asTrue() {
+        Sentences.terms("ask: it is put, and answered as it is true; best: BEST is put;");
+        AskingCourt x = Court.of("fact x has a b;question p fee 1 asks b;question r fee 10 asks a;"
+                + "witness w knows x may honest 5 turns 5 silent 6;");
+        int[][] fees = {{10 + 2, 10 + 1, 10 + 10}, {10 + 1, 10 + 2, 10 + 10}};
+        int[] seen = new int[6];
+        for (int seed = 0; seed < 200; seed++) {
+            int s = next(seed);
+            int world = s / 8 % 2;
+            int drawn = next(s) / 8 % 16;
+            int kind = drawn < 5 ? 0 : drawn < 10 ? 1 : 2;
+            Court.plan(x, "ask w r;");
+            Court.given(x, "sit", x.sit(seed), 2);
+            Court.given(x, "sat(3)", x.sat(3), world);
+            Court.given(x, "sat(1)", x.sat(1), fees[world][kind]);
+            Court.given(x, "sat(4)", x.sat(4), 2);
+            Court.plan(x, "best w;");
+            Court.given(x, "sit", x.sit(seed), 2);
+            Court.given(x, "sat(0)", x.sat(0), 1);
+            int[][] best = {{1 + 2, 1 + 1, 1 + 1}, {1 + 20, 1 + 10, 1 + 1}};
+            Court.given(x, "p is put: sat(1)", x.sat(1), best[world][kind]);
+            seen[world * 3 + kind]++;
+        }
+        for (int i = 0; i < 6; i++) {
+            Court.due("each was drawn", seen[i] > 0, true);
         }
     }
 
@@ -358,6 +417,11 @@ public final class EdgePlansTest {
             right += x.sit(seed) == 0 ? 1 : 0;
         }
         Court.given(x, "tally(4990, 30, 0)", x.tally(4990, 30, 0), right);
+        for (int seed = 4990; seed < 5020; seed++) {
+            Court.given(x, "so many less", x.tally(seed, 5020 - seed, 0), right);
+            right -= x.sit(seed) == 0 ? 1 : 0;
+        }
+        right = x.tally(4990, 30, 0);
         Court.given(x, "tally(4990, 30, 1)", x.tally(4990, 30, 1), 30 - right);
         Court.given(x, "tally(4990, 30, 2)", x.tally(4990, 30, 2), 0);
         int[][] wrong = {{-1, 1, 0}, {10000, 1, 0}, {0, 0, 0}, {0, 31, 0}, {0, -1, 0}, {0, 1, -1}, {0, 1, 3}, {9999, 2, 0},

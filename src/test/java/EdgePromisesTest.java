@@ -404,7 +404,7 @@ public final class EdgePromisesTest {
         }
         Court.refused(x, "fee(3)", x.fee(3), 1);
         Court.refused(x, "fee(-1)", x.fee(-1), 1);
-        Sentences.promise(19, "with how many sixteenths it is of a KIND (0 if it may not be), 4: the set of FACTS it knows (1 for"
+        Sentences.promise(19, "Of a WITNESS, what 0 to 3: with how many sixteenths it is of a KIND (0 if it may not be), 4: the set of FACTS it knows (1 for"
                 + " FACT 0 ..), 5: the set of QUESTIONS it hides (1).");
         int[][] due = {{12, 4, 0, 0, 1, 4}, {0, 0, 0, 16, 0, 0}};
         for (int v = 0; v < 2; v++) {
@@ -433,6 +433,17 @@ public final class EdgePromisesTest {
                 Court.given(x, "isLeft(" + w + ")", x.isLeft(w), 1);
             }
         }
+        AskingCourt y = Court.of(LARGE.substring(0, LARGE.indexOf("question")) + "question q fee 1 asks not (va or ve);"
+                + "question r fee 1 asks (vb or vf) and not (vj and vm or vn);question s fee 1 asks vh and not not vl or vp and vd;");
+        for (int w = 0; w < 256; w++) {
+            int[] has = {w >> 6, 4 + (w >> 4 & 3), 8 + (w >> 2 & 3), 12 + (w & 3)};
+            boolean q = !(has[0] == 0 || has[1] == 4);
+            boolean r = (has[0] == 1 || has[1] == 5) && !(has[2] == 9 && has[3] == 12 || has[3] == 13);
+            boolean s = has[1] == 7 && has[2] == 11 || has[3] == 15 && has[0] == 3;
+            Court.given(y, "holds(0, " + w + ")", y.holds(0, w), q ? 1 : 0);
+            Court.given(y, "holds(1, " + w + ")", y.holds(1, w), r ? 1 : 0);
+            Court.given(y, "holds(2, " + w + ")", y.holds(2, w), s ? 1 : 0);
+        }
         Court.given(x, "value(15, 1)", x.value(15, 1), 9);
         Court.refused(x, "value(16, 1)", x.value(16, 1), 1);
         Court.refused(x, "world(256, 0)", x.world(256, 0), 1);
@@ -453,7 +464,7 @@ public final class EdgePromisesTest {
     }
 
     private static void answers() {
-        Sentences.promise(20, "twice the QUESTION of its SAYING, and 1 more if that is asked twice; an ECHO is the QUESTION once"
+        Sentences.promise(20, "What a WITNESS would answer to a QUESTION in a WORLD, if it were of a KIND: twice the QUESTION of its SAYING, and 1 more if that is asked twice; an ECHO is the QUESTION once"
                 + " (1; 7: the WORLD is not POSSIBLE).");
         AskingCourt x = Court.of(SMALL);
         Court.given(x, "honest in world 2", x.answer(0, 0, 2, 0), 1);
@@ -729,7 +740,8 @@ public final class EdgePromisesTest {
     private static void shortests() {
         Sentences.promise(36, "SHORTEST to a QUESTION, by a WITNESS, or by any (NONE) (1; 6: not by so few; none is LEFT).");
         AskingCourt x = Court.of(SMALL);
-        Sentences.promise(37, "(1; 6: there was none, or it was 0)");
+        Sentences.promise(37, "The first to be put by shortest() latest with STATUS 0, what 0: WITNESS, 1: QUESTION (1; 6: there"
+                + " was none, or it was 0).");
         Court.refused(x, "there was none", x.shortestFirst(0), 6);
         Court.refused(x, "1 ahead of 6", x.shortestFirst(2), 1);
         Court.refused(x, "not by so few", x.shortest(1, -1), 6);
@@ -785,7 +797,8 @@ public final class EdgePromisesTest {
         Court.refused(x, "no plan", x.sit(0), 6);
         Court.refused(x, "1 ahead of 6", x.sit(-1), 1);
         Court.refused(x, "1 ahead of 6", x.sit(10000), 1);
-        Sentences.promise(43, "the set of WITNESSES that were not honest (1; 6: there was none)");
+        Sentences.promise(43, "Of sit() latest with STATUS 0, what 0: how many were put, 1: FEES, 2: the DAY, 3: the true WORLD,"
+                + " 4: WORLDS that were LEFT at the end, 5: the set of WITNESSES that were not honest (1; 6: there was none).");
         Court.refused(x, "there was none", x.sat(0), 6);
         Court.refused(x, "1 ahead of 6", x.sat(6), 1);
         Court.refused(x, "1 ahead of 6", x.sat(-1), 1);

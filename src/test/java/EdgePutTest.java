@@ -19,6 +19,7 @@ public final class EdgePutTest {
         firstToBePut();
         nonePutTwice();
         daysDoNotMatter();
+        lastSaying();
         settled();
         Court.end("EdgePutTest");
     }
@@ -78,6 +79,16 @@ public final class EdgePutTest {
         Court.given(y, "worst(0, 2)", y.worst(0, 2), 2);
         Court.given(y, "worst(0, 3)", y.worst(0, 3), 2);
         Court.given(y, "the least, and its first", y.best(0), 2);
+        y.hear(0, 2, 2);
+        Court.given(y, "left()", y.left(), 1);
+        Court.given(y, "one is left, and all are alike", y.best(0), 0);
+        AskingCourt z = Court.of("fact a has b c d e;fact f has g h i j;fact k has l m n o;fact p has q r s t;"
+                + "question u fee 0 asks b;question v fee 0 asks t;witness w may silent 16;");
+        Court.given(z, "worst(0, 1)", z.worst(0, 1), 256);
+        Court.given(z, "all of 256 are left behind each", z.best(0), 0);
+        z.hear(0, 0, 0);
+        Court.given(z, "and behind the last", z.best(0), 1);
+        Court.refused(z, "by one who is silent", z.shortest(1, 0), 6);
     }
 
     private static void lastOne() {
@@ -192,6 +203,11 @@ public final class EdgePutTest {
         notBySoFew(y, 0, 0);
         Court.given(y, "who is never silent", y.shortest(0, -1), 1);
         first(y, 1, 1);
+        AskingCourt u = Court.of("fact x has a b;fact y has c d;question p fee 0 asks a and c;"
+                + "witness w knows x may honest 16;witness v knows y may honest 16;");
+        Court.given(u, "w tells b", u.answer(0, 0, 2, 0), 1);
+        Court.given(u, "v tells d", u.answer(1, 0, 1, 0), 1);
+        notBySoFew(u, 0, -1);
         AskingCourt z = Court.of("fact x has a b;fact y has c d;fact u has e f;question p fee 0 asks a;question q fee 0 asks c;"
                 + "question r fee 0 asks e;question t fee 0 asks a and c or b and e;"
                 + "witness z may silent 16;witness w knows x y u may honest 16;");
@@ -225,6 +241,43 @@ public final class EdgePutTest {
         first(x, 1, 11);
         x.hear(0, 11, 22);
         notBySoFew(x, 0, 1);
+    }
+
+    /** In b all that w can say is the last question twice, the largest answer there is. */
+    private static void lastSaying() {
+        Sentences.terms("such that it is SURE then whatever is answered");
+        StringBuilder text = new StringBuilder("fact x has a b;fact y has c d;fact u has e f;");
+        for (int q = 0; q < 8; q++) {
+            text.append("question q").append((char) ('a' + q)).append(" fee 0 asks a or b;");
+        }
+        text.append("question t fee 0 asks a and c or b and (c and e or d and f);question q fee 0 asks c;"
+                + "question r fee 0 asks e;question p fee 0 asks a;witness z may silent 16;witness w knows x y u may honest 16;");
+        AskingCourt x = Court.of(text.toString());
+        for (int w = 0; w < 8; w++) {
+            Court.given(x, "answer(1, 11, " + w + ", 0)", x.answer(1, 11, w, 0), w < 4 ? 22 : 23);
+        }
+        Court.given(x, "worst(1, 11)", x.worst(1, 11), 4);
+        x.hear(0, 8, 16);
+        Court.given(x, "behind b two more", x.shortest(8, 1), 3);
+        first(x, 1, 9);
+        notBySoFew(x, 8, -1);
+        x.hear(1, 9, 18);
+        Court.given(x, "the last first", x.shortest(8, 1), 2);
+        first(x, 1, 10);
+        x.hear(1, 11, 23);
+        Court.given(x, "left()", x.left(), 2);
+        Court.given(x, "one more", x.shortest(8, -1), 1);
+        first(x, 1, 10);
+        StringBuilder four = new StringBuilder("fact x has a b c d;witness w knows x may honest 16;");
+        for (int q = 0; q < 12; q++) {
+            four.append("question q").append((char) ('a' + q)).append(q < 11 ? " fee 0 asks a or b or c or d;" : " fee 0 asks a;");
+        }
+        AskingCourt y = Court.of(four.toString());
+        Court.given(y, "three behind the last saying", y.worst(0, 11), 3);
+        Court.given(y, "best(0)", y.best(0), 11);
+        Court.given(y, "hear(0, 11, 23)", y.hear(0, 11, 23));
+        Court.given(y, "left()", y.left(), 3);
+        Court.given(y, "fits(0, 0, 3)", y.fits(0, 0, 3), 1);
     }
 
     private static void settled() {

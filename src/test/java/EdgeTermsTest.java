@@ -13,6 +13,7 @@ public final class EdgeTermsTest {
         trays();
         trayNumbers();
         longestText();
+        parts();
         blanks();
         signs();
         asLongAsTheyGo();
@@ -30,6 +31,8 @@ public final class EdgeTermsTest {
         witnesses();
         sixteenths();
         toldAhead();
+        numbersThatCantBe();
+        inPlaceOfThatAhead();
         Court.end("EdgeTermsTest");
     }
 
@@ -85,6 +88,44 @@ public final class EdgeTermsTest {
         Court.refused(x, "court(901)", x.court(901), 1);
         Court.given(x, "court(900)", x.court(900), 2);
         Court.good("", 1);
+    }
+
+    private static void parts() {
+        Sentences.terms("CASE: {PART}. PART: fact NAME has NAME [NUMBER] {NAME [NUMBER]} ; or never NAME NAME ; or question"
+                + " NAME fee NUMBER asks EITHER ; or witness NAME [knows NAME {NAME}] may KIND NUMBER {KIND NUMBER} [hides"
+                + " NAME {NAME}] ;");
+        Court.good("", 1);
+        Court.good("fact a has b 1 c;", 2);
+        Court.good("fact a has b c 1 d 2 e;", 4);
+        Court.good(TWO + "fact d has e f;never b e;", 3);
+        Court.good(ASKED, 2);
+        Court.good("witness w may silent 16;", 1);
+        Court.good("witness w may silent 4 turns 4 honest 4 other 4;", 1);
+        Court.good(FOUR + "witness w knows j may silent 16;", 16);
+        Court.good(FOUR + "witness w knows g a j d may silent 15 turns 1;", 16);
+        Court.good(ASKED + "question r fee 1 asks b;witness w may honest 16 hides r;", 2);
+        Court.good(ASKED + "question r fee 1 asks b;witness w knows a may honest 1 other 15 hides r q;", 2);
+        Sentences.terms("({ } any number of times, [ ] perhaps.)");
+        Court.fault(2, "fact a", ";");
+        Court.fault(2, "fact a has", ";");
+        Court.fault(2, "fact a has ", "1 b c;");
+        Court.fault(2, TWO + "fact d has e f;never b", ";");
+        Court.fault(2, TWO + "fact d has e f;never b e ", "c;");
+        Court.fault(2, TWO + "question q ", "asks b;");
+        Court.fault(2, TWO + "question q fee ", "asks b;");
+        Court.fault(2, TWO + "question q fee 1", ";");
+        Court.fault(2, TWO + "question q fee 1 asks", ";");
+        Court.fault(2, TWO + "question q fee 1 asks b ", "c;");
+        Court.fault(2, TWO + "witness w knows ", "may honest 16;");
+        Court.fault(2, TWO + "witness w knows a", ";");
+        Court.fault(2, "witness w", ";");
+        Court.fault(2, "witness w ", "hides q may honest 16;");
+        Court.fault(2, ASKED + "witness w may honest 16 hides", ";");
+        Court.fault(2, ASKED + "witness w may honest 16 hides q ", "knows a;");
+        Court.fault(2, TWO + "witness w may honest 16 ", "knows a;");
+        Court.fault(2, "witness w may ", "16;");
+        Court.fault(2, "witness w may honest", ";");
+        Court.fault(2, "witness w may honest 16 turns", ";");
     }
 
     private static void blanks() {
@@ -178,6 +219,11 @@ public final class EdgeTermsTest {
     }
 
     private static void oneThingAlone() {
+        Sentences.terms("3 a new NAME that is taken;");
+        Court.fault(3, TWO + "fact ", "b has d e;");
+        Court.fault(3, "fact a has b ", "b");
+        Court.fault(3, TWO + "question ", "a");
+        Court.fault(3, "witness w may honest 16;witness ", "w ?");
         Sentences.terms("One NAME is of one thing alone.");
         String all = "witness w may honest 16;fact a has b c;question q fee 1 asks b;";
         for (String name : List.of("w", "a", "b", "c", "q")) {
@@ -356,6 +402,51 @@ public final class EdgeTermsTest {
         Court.fault(8, "witness w may honest 1 turns 1 other 1 silent 1", ";");
         Court.fault(8, ASKED + "witness w may honest 14 other 1 ", "hides q;");
         Court.fault(8, "witness w may honest 14 other 1 ", "hides q;");
+    }
+
+    private static void numbersThatCantBe() {
+        Sentences.terms("4 a NUMBER that can't be.");
+        String[] aheads = {"fact a has b ", TWO + "question q fee ", "witness w may honest "};
+        int[] least = {1, 0, 1};
+        int[] most = {9, 99, 16};
+        for (int i = 0; i < 3; i++) {
+            for (int number = 0; number < 300; number++) {
+                boolean can = number >= least[i] && number <= most[i];
+                Court.fault(can ? 2 : 4, aheads[i] + (can ? number + " " : ""), can ? ")" : String.valueOf(number));
+            }
+            Court.fault(4, aheads[i], "9999");
+            Court.fault(1, aheads[i], "65537");
+            Court.fault(1, aheads[i], "4294967297");
+            Court.fault(1, aheads[i], "00000000000000000001");
+        }
+    }
+
+    private static void inPlaceOfThatAhead() {
+        Sentences.terms("A CASE that is taken is there in place of that ahead; nothing is heard then, it is day 0, no PLAN is"
+                + " there.");
+        AskingCourt x = Court.of(ASKED + "question r fee 1 asks b;witness w knows a may honest 16;");
+        Court.plan(x, "next;");
+        x.hear(0, 0, 2);
+        x.nextDay();
+        Court.given(x, "ahead", x.told(6), 1);
+        Court.given(x, "ahead", x.sit(0), 2);
+        for (String text : new String[] {ASKED + "witness w may honest 16;", "", ASKED + "witness w may honest 16;"}) {
+            Court.given(x, text, Court.court(x, text), text.isEmpty() ? 1 : 2);
+            int[] due = text.isEmpty() ? new int[] {0, 0, 1, 0, 0, 0, 0, 0} : new int[] {1, 2, 2, 1, 1, 0, 0, 0};
+            for (int what = 0; what < 8; what++) {
+                Court.given(x, "told(" + what + ")", x.told(what), due[what]);
+            }
+            Court.refused(x, "heard(0, 0)", x.heard(0, 0), 6);
+            Court.refused(x, "unsay()", x.unsay(), 6);
+            Court.refused(x, "sit(0)", x.sit(0), 6);
+            Court.given(x, "left()", x.left(), due[2]);
+            if (due[4] > 0) {
+                Court.given(x, "it can be put again", x.hear(0, 0, 1));
+                Court.given(x, "a plan again", Court.plan(x, "ask w q;"), 1);
+            }
+            x.nextDay();
+        }
+        Court.fault(3, "fact x has b c;question r fee 1 asks ", "a;");
     }
 
     private static void toldAhead() {
