@@ -405,6 +405,14 @@ public final class EdgeAnswersTest {
         Court.given(s, "by both", s.because(2), 3);
         Court.given(s, "by the second", s.because(3), 2);
         Court.given(s, "by both", s.because(2), 3);
+        AskingCourt w = Court.of("fact x has b a;fact y has d c;fact u has f e;question p fee 0 asks a;question q fee 0 asks c;"
+                + "question r fee 0 asks e;question t fee 0 asks a and e;witness w knows x may honest 16;"
+                + "witness v knows y may honest 16;witness o knows u may honest 16;");
+        hear(w, new int[] {0, 0, 0}, new int[] {1, 1, 2}, new int[] {2, 2, 4});
+        int[] due = {1, 2, 4, 5};
+        for (int q : new int[] {3, 0, 3, 1, 3, 2, 0, 1, 2, 3}) {
+            Court.given(w, "whatever was told ahead, because(" + q + ")", w.because(q), due[q]);
+        }
         AskingCourt v = Court.of(PROOFS);
         hear(v, new int[] {0, 0, 1}, new int[] {1, 2, 5});
         Court.given(v, "sure no by either", v.because(3), 1);

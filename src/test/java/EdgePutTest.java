@@ -89,6 +89,11 @@ public final class EdgePutTest {
         z.hear(0, 0, 0);
         Court.given(z, "and behind the last", z.best(0), 1);
         Court.refused(z, "by one who is silent", z.shortest(1, 0), 6);
+        AskingCourt u = Court.of("fact a has b c d e;fact f has g h i j;fact k has l m n o;fact p has q r s t;"
+                + "question u fee 0 asks b;question v fee 0 asks t;question w fee 0 asks o;question x fee 0 asks c;"
+                + "witness y may silent 16;witness z knows a f k p may honest 16;");
+        Court.refused(u, "all are left behind three", u.shortest(3, 0), 6);
+        Court.given(u, "by one who knows", u.shortest(3, -1), 1);
     }
 
     private static void lastOne() {

@@ -84,6 +84,9 @@ public final class EdgeReuseTest {
             List<String> states = new ArrayList<>();
             for (int many = 1; many <= 3; many++) {
                 Court.court(x, CASES.get((first + 3 * many) % CASES.size()));
+                for (int day = 0; day < 5 * many; day++) {
+                    x.nextDay();
+                }
                 hearSome(x, many % 2);
                 Court.plan(x, "next;".repeat(many));
                 states.add(State.of(x));
